@@ -254,7 +254,6 @@ public final class WaveletStream {
         /** So many bits as a value, MANY for all above; LACKING when they do not all lie before the end. */
         int takeBits(int count) {
             if (count > endBit - nextBit) {
-                nextBit = endBit;
                 return LACKING;
             }
             int value = 0;
@@ -466,7 +465,7 @@ public final class WaveletStream {
         private final Told told;
         private final int[] meant = new int[ROW * ROW];
         private final int[] size = new int[ROW * ROW];
-        // 1 for awake and above 0, -1 for awake and below 0
+        // 1 for awake and above 0, -1 for awake and below 0: the lowest bit of either counts it as awake.
         private final int[] awake = new int[ROW * ROW];
         private final boolean[] toldNow = new boolean[ROW * ROW];
         private final boolean[] refined = new boolean[ROW * ROW];
@@ -623,8 +622,6 @@ public final class WaveletStream {
         private int meantBit(int p) {
             return Math.abs(meant[p]) >> plane & 1;
         }
-
-        // The lowest bit of 1 and of -1 is 1: it counts the awake ones, above 0 or below.
 
         private int inRow(int p) {
             return (awake[p - 1] & 1) + (awake[p + 1] & 1);
@@ -1271,7 +1268,7 @@ public final class WaveletStream {
             return many < 0 ? many : 6 + many;
         }
 
-        /** A width whose end is missing leaves no bits, so that the number of bytes is missing too. */
+        /** Bits 1 up to the end of the bytes leave none for the number of bytes: that is lacking then. */
         private void growWidth(ByteRow stream, int b) {
             for (int k = 0; k < 8 * ROOM && stream.takeBits(1) == 1; k++) {
                 widthOfLengths[b]++;

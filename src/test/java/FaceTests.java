@@ -33,7 +33,7 @@ final class FaceTests {
     static void run(Check check, Path source, Path document) throws IOException {
         members(check);
         language(check, Files.readString(source));
-        table(check, Files.readString(document));
+        table(check, Files.readString(source), Files.readString(document));
     }
 
     private static String text(Method m) {
@@ -112,8 +112,8 @@ final class FaceTests {
         check.that("the longest method has " + longest + " lines", longest <= 60);
     }
 
-    /** That the reference's table of states, which the tests compare with, is the document's. */
-    private static void table(Check check, String document) {
+    /** That the program's and the reference's table of states is the document's: few runs reach its end. */
+    private static void table(Check check, String source, String document) {
         check.subject("the table of states");
         String plain = document.replaceAll("\\s+", " ");
         for (String row : Reference.STATES.split(", ")) {
@@ -124,5 +124,16 @@ final class FaceTests {
         int to = plain.indexOf("5601 46 46");
         check.that("in the document's order", from >= 0 && to > from
             && plain.substring(from, to + 10).equals(Reference.STATES));
+        String[] names = {"SIZES", "AFTER_LIKELY", "AFTER_OTHER"};
+        for (int what = 0; what < names.length; what++) {
+            String head = "int[] " + names[what] + " = {";
+            int begin = source.indexOf(head) + head.length();
+            String[] entries = source.substring(begin, source.indexOf("}", begin)).trim().split(",\\s*");
+            check.equal("entries of " + names[what], entries.length, Reference.Learnt.TABLE.length);
+            for (int i = 0; i < Math.min(entries.length, Reference.Learnt.TABLE.length); i++) {
+                check.equal(names[what] + " " + i, Integer.decode(entries[i].replaceFirst("^0+(?=[1-9])", "")),
+                    Reference.Learnt.TABLE[i][what]);
+            }
+        }
     }
 }

@@ -30,8 +30,10 @@ final class PromiseTests {
         t.waveletOfRows();
         t.waveletOfColumnsFirst();
         t.codewords();
+        t.carriesThatMakeFf();
         t.leastLengths();
         t.decodeGivesThePictureItself();
+        t.manyPicturesInOneObject();
         t.decodeOfBeginnings();
         t.decodeRefuses();
         t.malformedFirstBytes();
@@ -422,6 +424,37 @@ final class PromiseTests {
         check.equal("codeword(4, 0)", v.codeword(4, 0), NONE);
     }
 
+    /** Pictures (found by trying) in whose codewords a carry makes the last byte ff. */
+    private void carriesThatMakeFf() {
+        check.subject("promise 10");
+        int[][] pictures = {
+            {0, 4, 1, 80, 163, 53, 214},
+            {0, 1, 5, 169, 35, 150, 217, 171},
+            {1, 5, 1, 62, 150, 216, 170, 104},
+            {2, 6, 1, 9, 173, 12, 123, 17, 94},
+            {2, 3, 2, 139, 255, 159, 233, 100, 140}};
+        for (int[] p : pictures) {
+            Reference due = new Reference();
+            WaveletStream w = drawn(p[1], p[2], Arrays.copyOfRange(p, 3, p.length));
+            due.picture(p[1], p[2]);
+            for (int i = 3; i < p.length; i++) {
+                due.paint((i - 3) % p[1], (i - 3) / p[1], p[i]);
+            }
+            int size = due.encode(p[0], 1);
+            check.equal("encode(" + p[0] + ", 1)", w.encode(p[0], 1), size);
+            boolean anyFf = false;
+            for (int b = 0; b <= 3 * p[0]; b++) {
+                for (int i = 0; i <= due.band(b, 4); i++) {
+                    check.equal("codeword(" + b + ", " + i + ")", w.codeword(b, i), due.codeword(b, i));
+                    anyFf |= w.codeword(b, i) == 0xff;
+                }
+            }
+            check.that("there is a byte ff", anyFf);
+            w.decode(size);
+            check.equal("difference()", w.difference(), 0);
+        }
+    }
+
     private void leastLengths() {
         check.subject("promise 11");
         WaveletStream w = noise(8, 8, 4);
@@ -459,6 +492,30 @@ final class PromiseTests {
                     check.equal("taken(" + b + ")", w.taken(b), w.band(b, 3));
                 }
             }
+        }
+    }
+
+    /** 320 calls of one object: nothing of an earlier picture is left in a later one. */
+    private void manyPicturesInOneObject() {
+        check.subject("promise 12");
+        Random random = new Random(11);
+        WaveletStream w = new WaveletStream();
+        for (int k = 0; k < 40; k++) {
+            int width = 1 + random.nextInt(8);
+            int height = k % 4 == 0 ? 8 : 1 + random.nextInt(8);
+            w.picture(width, height);
+            for (int i = 0; i < 4; i++) {
+                w.paint(random.nextInt(width), random.nextInt(height), random.nextInt(256));
+            }
+            int levels = random.nextInt(4);
+            int layers = 1 + random.nextInt(3);
+            check.equal("decode", w.decode(w.encode(levels, layers)), layers * (levels + 1));
+            check.equal("difference()", w.difference(), 0);
+        }
+        WaveletStream v = noise(8, 8, 12);
+        for (int k = 0; k < 200; k++) {
+            check.equal("decode", v.decode(v.encode(0, 1)), 1);
+            check.equal("difference()", v.difference(), 0);
         }
     }
 

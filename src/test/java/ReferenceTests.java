@@ -67,7 +67,7 @@ final class ReferenceTests {
         int height = anyOf(1, 8);
         one.picture(width, height);
         other.picture(width, height);
-        int manner = anyOf(0, 6);
+        int manner = anyOf(0, 9);
         int base = anyOf(0, 255);
         int acrossStep = anyOf(-40, 40);
         int downStep = anyOf(-40, 40);
@@ -94,6 +94,12 @@ final class ReferenceTests {
                 return random.nextInt(10) == 0 ? anyOf(0, 255) : base;
             case 5:
                 return (x + y) % 2 == 0 ? 255 : random.nextInt(30);
+            case 6:
+                return (x + y) % 2 == 0 ? 128 + anyOf(60, 127) : 128 + anyOf(-2, 2);
+            case 7:
+                return base % 2 == 0 ? 0 : 128 + (1 << base % 7);
+            case 8:
+                return x % 2 == 0 && y % 2 == 0 ? anyOf(0, 255) : 128;
             default:
                 return Math.max(0, Math.min(255, base + anyOf(-3, 3)));
         }
@@ -157,7 +163,7 @@ final class ReferenceTests {
     /** Two bytes that bring in more than the coder could have told. */
     private void pokeCarry() {
         int i = anyOf(4, other.stream.size() - 1);
-        int high = anyOf(0x80, 0x8f);
+        int high = anyOf(0x80, 0x91);
         for (int k = 0; k < 2; k++) {
             int at = i + k;
             int b = k == 0 ? 255 : high;
