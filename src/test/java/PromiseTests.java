@@ -47,34 +47,6 @@ final class PromiseTests {
         t.differences();
     }
 
-    private static WaveletStream drawn(int width, int height, int... pixels) {
-        WaveletStream w = new WaveletStream();
-        w.picture(width, height);
-        for (int i = 0; i < pixels.length; i++) {
-            w.paint(i % width, i / width, pixels[i]);
-        }
-        return w;
-    }
-
-    private static WaveletStream noise(int width, int height, long seed) {
-        Random random = new Random(seed);
-        int[] pixels = new int[width * height];
-        for (int i = 0; i < pixels.length; i++) {
-            pixels[i] = random.nextInt(256);
-        }
-        return drawn(width, height, pixels);
-    }
-
-    /** An object whose stream begins with these bytes; behind them there are others. */
-    private static WaveletStream poked(int... bytes) {
-        WaveletStream w = noise(8, 8, 5);
-        w.encode(0, 1);
-        for (int i = 0; i < bytes.length; i++) {
-            w.poke(i, bytes[i]);
-        }
-        return w;
-    }
-
     private void streamIs(WaveletStream w, int... due) {
         for (int i = 0; i < due.length; i++) {
             check.equal("stream(" + i + ")", w.stream(i), due[i]);
@@ -132,7 +104,7 @@ final class PromiseTests {
 
     private void pictureLeavesStreamAndDecoded() {
         check.subject("promise 2");
-        WaveletStream w = drawn(2, 1, 10, 20);
+        WaveletStream w = Make.drawn(2, 1, 10, 20);
         int size = w.encode(1, 1);
         w.decode(size);
         w.picture(3, 3);
@@ -147,7 +119,7 @@ final class PromiseTests {
 
     private void paintAndPixel() {
         check.subject("promises 3 and 4");
-        WaveletStream w = drawn(3, 2);
+        WaveletStream w = Make.drawn(3, 2);
         w.paint(2, 1, 255);
         w.paint(0, 1, 7);
         w.paint(0, 1, 0);
@@ -182,7 +154,7 @@ final class PromiseTests {
         check.subject("promise 5");
         for (int levels = 0; levels <= 3; levels++) {
             for (int layers = 1; layers <= 3; layers++) {
-                WaveletStream w = drawn(2, 2, 128, 128, 128, 128);
+                WaveletStream w = Make.drawn(2, 2, 128, 128, 128, 128);
                 int due = 4 + layers * (levels + 1);
                 check.equal("encode(" + levels + ", " + layers + ")", w.encode(levels, layers), due);
                 check.equal("stream(2)", w.stream(2), levels);
@@ -225,7 +197,7 @@ final class PromiseTests {
         check.equal("packets", packets, 3);
         // 1, 1, 1000, 1111 00001, 0, 00001 and one byte; then 1, 1, 1111 00001, 0, 00000; then n is 8
         streamIs(w, 1, 1, 0, 3, 0xe3, 0xc2, 0x08, 0x07, 0xfc, 0x20, 0x00, 0xfc, 0x40, 0x00);
-        WaveletStream v = drawn(1, 1, 131);
+        WaveletStream v = Make.drawn(1, 1, 131);
         size = v.encode(0, 3);
         v.decode(size);
         check.equal("planes of 3", v.band(0, 2), 2);
@@ -242,7 +214,7 @@ final class PromiseTests {
     /** With noise there are 64 and more bytes of 22 passes: 7 bits, 3 and the logarithm 4, hold up to 127. */
     private void headGrowsItsWidth() {
         check.subject("promise 5");
-        WaveletStream w = noise(8, 8, 1);
+        WaveletStream w = Make.noise(8, 8, 1);
         int size = w.encode(0, 1);
         int bytes = w.least(0, 22);
         check.equal("planes", w.band(0, 2), 8);
@@ -251,7 +223,7 @@ final class PromiseTests {
         check.equal("stream(6)", w.stream(6), bytes << 1);
         // A band of few passes and many bytes: 0 or 1 less than the middle gives 1 plane and 1 pass.
         Random random = new Random(7);
-        WaveletStream v = drawn(8, 8);
+        WaveletStream v = Make.drawn(8, 8);
         for (int i = 0; i < 64; i++) {
             v.paint(i % 8, i / 8, 127 + random.nextInt(3));
         }
@@ -290,7 +262,7 @@ final class PromiseTests {
 
     private void bandShapes() {
         check.subject("promise 8");
-        WaveletStream w = noise(5, 4, 2);
+        WaveletStream w = Make.noise(5, 4, 2);
         w.encode(2, 2);
         bandIs(w, 0, 2, 1);
         bandIs(w, 1, 1, 1);
@@ -330,7 +302,7 @@ final class PromiseTests {
         int[] pixels = {128, 129, 127, 130, 126, 131, 132, 255, 0, 64, 65};
         int[] planes = {0, 1, 1, 2, 2, 2, 3, 7, 8, 7, 6};
         for (int i = 0; i < pixels.length; i++) {
-            WaveletStream w = drawn(1, 1, pixels[i]);
+            WaveletStream w = Make.drawn(1, 1, pixels[i]);
             w.encode(0, 1);
             check.equal("planes of " + pixels[i], w.band(0, 2), planes[i]);
             check.equal("passes of " + pixels[i], w.band(0, 3), planes[i] == 0 ? 0 : 3 * planes[i] - 2);
@@ -339,23 +311,23 @@ final class PromiseTests {
 
     private void waveletOfRows() {
         check.subject("promise 9");
-        WaveletStream w = drawn(2, 1, 10, 20);
+        WaveletStream w = Make.drawn(2, 1, 10, 20);
         w.encode(1, 1);
         check.equal("s of two", w.number(0, 0, 0), -113);
         check.equal("d of two", w.number(1, 0, 0), 10);
-        w = drawn(1, 2, 10, 20);
+        w = Make.drawn(1, 2, 10, 20);
         w.encode(1, 1);
         check.equal("s of two in a column", w.number(0, 0, 0), -113);
         check.equal("d of two in a column", w.number(2, 0, 0), 10);
         check.equal("HL is empty", w.number(1, 0, 0), NONE);
         // -128, 127, -121: half of -249 is -125, so d is 252; a fourth of 506 is 126
-        w = drawn(3, 1, 0, 255, 7);
+        w = Make.drawn(3, 1, 0, 255, 7);
         w.encode(1, 1);
         check.equal("s(0) of three", w.number(0, 0, 0), -2);
         check.equal("s(1) of three", w.number(0, 1, 0), 5);
         check.equal("d(0) of three", w.number(1, 0, 0), 252);
         // 4, 0, 1, 9, 0 (and 128): d is -2 and 9; s(1) has a fourth of -2 + 9 + 2
-        w = drawn(5, 1, 132, 128, 129, 137, 128);
+        w = Make.drawn(5, 1, 132, 128, 129, 137, 128);
         w.encode(1, 1);
         check.equal("d(0) of five", w.number(1, 0, 0), -2);
         check.equal("d(1) of five", w.number(1, 1, 0), 9);
@@ -379,7 +351,7 @@ final class PromiseTests {
         check.subject("promise 9");
         // numbers a b / c d = 0 0 / 1 0: columns: s 0 + (1 + 1 + 2) / 4 = 1, d 1; s 0, d 0
         // rows of 1 0: d -1, s 1 + 0 = 1; rows of 1 0: the same. Rows first: 0 0 and 1 0 -> s 1, d -1.
-        WaveletStream w = drawn(2, 2, 128, 128, 129, 128);
+        WaveletStream w = Make.drawn(2, 2, 128, 128, 129, 128);
         w.encode(1, 1);
         check.equal("LL", w.number(0, 0, 0), 1);
         check.equal("HL", w.number(1, 0, 0), -1);
@@ -387,7 +359,7 @@ final class PromiseTests {
         check.equal("HH", w.number(3, 0, 0), -1);
         // numbers 0 1 / 0 0: columns: s 0, d 0; d -1, s 1 + 0 = 1. Rows of 0 1: d 1, s 0 + 1 = 1;
         // of 0 -1: d -1, s 0 + 0 = 0. Rows first there were 1 1 / 0 0: s 1, d -1; s 1, d -1.
-        w = drawn(2, 2, 128, 129, 128, 128);
+        w = Make.drawn(2, 2, 128, 129, 128, 128);
         w.encode(1, 1);
         check.equal("LL", w.number(0, 0, 0), 1);
         check.equal("HL", w.number(1, 0, 0), 1);
@@ -399,7 +371,7 @@ final class PromiseTests {
     }
 
     private static int drawnNumber() {
-        WaveletStream w = drawn(2, 2, 0, 0, 100, 0);
+        WaveletStream w = Make.drawn(2, 2, 0, 0, 100, 0);
         w.encode(0, 1);
         return w.number(0, 0, 1);
     }
@@ -414,7 +386,7 @@ final class PromiseTests {
         for (int far : FAR) {
             check.equal("codeword(" + far + ", 0)", w.codeword(far, 0), NONE);
         }
-        WaveletStream v = noise(8, 8, 3);
+        WaveletStream v = Make.noise(8, 8, 3);
         v.encode(1, 1);
         for (int b = 0; b < 4; b++) {
             int bytes = v.band(b, 4);
@@ -435,7 +407,7 @@ final class PromiseTests {
             {2, 3, 2, 139, 255, 159, 233, 100, 140}};
         for (int[] p : pictures) {
             Reference due = new Reference();
-            WaveletStream w = drawn(p[1], p[2], Arrays.copyOfRange(p, 3, p.length));
+            WaveletStream w = Make.drawn(p[1], p[2], Arrays.copyOfRange(p, 3, p.length));
             due.picture(p[1], p[2]);
             for (int i = 3; i < p.length; i++) {
                 due.paint((i - 3) % p[1], (i - 3) / p[1], p[i]);
@@ -457,7 +429,7 @@ final class PromiseTests {
 
     private void leastLengths() {
         check.subject("promise 11");
-        WaveletStream w = noise(8, 8, 4);
+        WaveletStream w = Make.noise(8, 8, 4);
         w.encode(1, 3);
         for (int b = 0; b < 4; b++) {
             int passes = w.band(b, 3);
@@ -473,7 +445,7 @@ final class PromiseTests {
         check.equal("least(-1, 0)", w.least(-1, 0), NONE);
         check.equal("least(0, far)", w.least(0, Integer.MAX_VALUE), NONE);
         check.equal("least(0, least int)", w.least(0, Integer.MIN_VALUE), NONE);
-        WaveletStream v = drawn(1, 1, 128);
+        WaveletStream v = Make.drawn(1, 1, 128);
         v.encode(0, 1);
         check.equal("least of no passes", v.least(0, 0), 0);
         check.equal("least of one too many", v.least(0, 1), NONE);
@@ -482,7 +454,7 @@ final class PromiseTests {
     private void decodeGivesThePictureItself() {
         check.subject("promise 12");
         for (int seed = 0; seed < 60; seed++) {
-            WaveletStream w = noise(1 + seed % 8, 1 + seed / 8, seed);
+            WaveletStream w = Make.noise(1 + seed % 8, 1 + seed / 8, seed);
             for (int levels = 0; levels <= 3; levels++) {
                 int layers = 1 + (seed + levels) % 3;
                 int size = w.encode(levels, layers);
@@ -512,7 +484,7 @@ final class PromiseTests {
             check.equal("decode", w.decode(w.encode(levels, layers)), layers * (levels + 1));
             check.equal("difference()", w.difference(), 0);
         }
-        WaveletStream v = noise(8, 8, 12);
+        WaveletStream v = Make.noise(8, 8, 12);
         for (int k = 0; k < 200; k++) {
             check.equal("decode", v.decode(v.encode(0, 1)), 1);
             check.equal("difference()", v.difference(), 0);
@@ -521,7 +493,7 @@ final class PromiseTests {
 
     private void decodeOfBeginnings() {
         check.subject("promise 12");
-        WaveletStream w = noise(7, 6, 9);
+        WaveletStream w = Make.noise(7, 6, 9);
         int size = w.encode(2, 3);
         int before = 0;
         for (int n = 4; n <= size; n++) {
@@ -557,7 +529,7 @@ final class PromiseTests {
         check.subject("promise 12");
         int[][] wrong = {{0, 0}, {0, 9}, {0, 255}, {1, 0}, {1, 9}, {2, 4}, {2, 255}, {3, 0}, {3, 4}, {3, 255}};
         for (int[] p : wrong) {
-            WaveletStream w = noise(2, 3, 6);
+            WaveletStream w = Make.noise(2, 3, 6);
             int size = w.encode(1, 2);
             w.decode(size);
             w.poke(p[0], p[1]);
@@ -568,7 +540,7 @@ final class PromiseTests {
         }
         int[][] right = {{0, 1}, {0, 8}, {1, 1}, {1, 8}, {2, 0}, {2, 3}, {3, 1}, {3, 3}};
         for (int[] p : right) {
-            WaveletStream w = noise(2, 3, 6);
+            WaveletStream w = Make.noise(2, 3, 6);
             w.encode(1, 2);
             w.poke(p[0], p[1]);
             check.equal("decode(4) with byte " + p[0] + " as " + p[1], w.decode(4), 0);
@@ -582,7 +554,7 @@ final class PromiseTests {
     private void malformedPlanes() {
         check.subject("promise 12");
         for (int planes = 0; planes <= 15; planes++) {
-            WaveletStream w = poked(1, 1, 0, 1, 0xc0 | planes << 2 | 1);
+            WaveletStream w = Make.poked(1, 1, 0, 1, 0xc0 | planes << 2 | 1);
             if (planes == 0 || planes > 12) {
                 check.refuses(planes + " planes", () -> w.decode(5));
                 check.refuses(planes + " planes", () -> w.decode(20));
@@ -593,7 +565,7 @@ final class PromiseTests {
         }
         // HL has nothing, LH has its planes in the second byte of the head: only there they are wrong.
         // band 0: 0; HL 1, planes 1, passes 1, no growth, length 000; LH 1, planes 1111
-        WaveletStream w = poked(2, 2, 1, 1, 0x00, 0xc4, 0x1f, 0xff);
+        WaveletStream w = Make.poked(2, 2, 1, 1, 0x00, 0xc4, 0x1f, 0xff);
         check.equal("planes of LH cut", w.decode(6), 1);
         check.refuses("planes of LH", () -> w.decode(7));
     }
@@ -601,23 +573,23 @@ final class PromiseTests {
     private void malformedPasses() {
         check.subject("promise 12");
         // 1 plane has 1 pass: 1, 1, 0001, then 10 tells two.
-        check.refuses("2 passes of 1 plane", () -> poked(1, 1, 0, 1, 0xc6).decode(5));
+        check.refuses("2 passes of 1 plane", () -> Make.poked(1, 1, 0, 1, 0xc6).decode(5));
         // 11 is not all of it: only the next byte tells that there are three.
-        check.equal("11 alone", poked(1, 1, 0, 1, 0xc7, 0x00).decode(5), 0);
-        check.refuses("3 passes of 1 plane", () -> poked(1, 1, 0, 1, 0xc7, 0x00).decode(6));
+        check.equal("11 alone", Make.poked(1, 1, 0, 1, 0xc7, 0x00).decode(5), 0);
+        check.refuses("3 passes of 1 plane", () -> Make.poked(1, 1, 0, 1, 0xc7, 0x00).decode(6));
         // 2 planes have 4 passes: 11 and 01 tell four, 11 and 10 tell five.
-        check.equal("4 passes of 2 planes", poked(1, 1, 0, 1, 0xcb, 0x40).decode(6), 1);
-        check.refuses("5 passes of 2 planes", () -> poked(1, 1, 0, 1, 0xcb, 0x80).decode(6));
+        check.equal("4 passes of 2 planes", Make.poked(1, 1, 0, 1, 0xcb, 0x40).decode(6), 1);
+        check.refuses("5 passes of 2 planes", () -> Make.poked(1, 1, 0, 1, 0xcb, 0x80).decode(6));
         // 1111 and 00000 tell six; the five bits end in the third byte for 3 planes (7 passes).
-        check.equal("7 passes of 3 planes", poked(1, 1, 0, 1, 0xcf, 0xc2, 0x00).decode(7), 1);
-        check.refuses("8 passes of 3 planes", () -> poked(1, 1, 0, 1, 0xcf, 0xc4, 0x00).decode(6));
-        check.equal("34 passes of 12 planes", poked(1, 1, 0, 1, 0xf3, 0xf8, 0x00).decode(7), 1);
-        check.refuses("35 passes of 12 planes", () -> poked(1, 1, 0, 1, 0xf3, 0xfa, 0x00).decode(6));
+        check.equal("7 passes of 3 planes", Make.poked(1, 1, 0, 1, 0xcf, 0xc2, 0x00).decode(7), 1);
+        check.refuses("8 passes of 3 planes", () -> Make.poked(1, 1, 0, 1, 0xcf, 0xc4, 0x00).decode(6));
+        check.equal("34 passes of 12 planes", Make.poked(1, 1, 0, 1, 0xf3, 0xf8, 0x00).decode(7), 1);
+        check.refuses("35 passes of 12 planes", () -> Make.poked(1, 1, 0, 1, 0xf3, 0xfa, 0x00).decode(6));
         // Over two layers: 1 plane, 1 pass, length 0; then one more pass.
-        check.refuses("1 pass and 1 of 1 plane", () -> poked(1, 1, 0, 2, 0xc4, 0x00, 0xc0).decode(7));
-        check.equal("the first of them", poked(1, 1, 0, 2, 0xc4, 0x00, 0xc0).decode(6), 1);
+        check.refuses("1 pass and 1 of 1 plane", () -> Make.poked(1, 1, 0, 2, 0xc4, 0x00, 0xc0).decode(7));
+        check.equal("the first of them", Make.poked(1, 1, 0, 2, 0xc4, 0x00, 0xc0).decode(6), 1);
         // Also when the packet's bytes are not there: lengths of 7, then more passes than there are.
-        check.refuses("a head whose bytes are cut", () -> poked(2, 1, 1, 1, 0xc4, 0x00, 0xc6).decode(7));
+        check.refuses("a head whose bytes are cut", () -> Make.poked(2, 1, 1, 1, 0xc4, 0x00, 0xc6).decode(7));
     }
 
     private void packetsThatAreCut() {
@@ -625,27 +597,27 @@ final class PromiseTests {
         // 1, 1, 0001, 0, 0, 010: two bytes behind the head
         int[] stream = {1, 1, 0, 1, 0xc4, 0x40, 0x12, 0x34};
         for (int n = 4; n <= 8; n++) {
-            WaveletStream w = poked(stream);
+            WaveletStream w = Make.poked(stream);
             check.equal("decode(" + n + ")", w.decode(n), n == 8 ? 1 : 0);
             check.equal("taken(0)", w.taken(0), n == 8 ? 1 : 0);
         }
-        check.equal("bytes behind the last packet", poked(stream).decode(20), 1);
-        check.equal("filled with other bits than 0", poked(1, 1, 0, 1, 0x7f).decode(5), 1);
+        check.equal("bytes behind the last packet", Make.poked(stream).decode(20), 1);
+        check.equal("filled with other bits than 0", Make.poked(1, 1, 0, 1, 0x7f).decode(5), 1);
         // The width grows as long as there are bits 1; it never ends.
         int[] grows = new int[40];
         Arrays.fill(grows, 0xff);
         System.arraycopy(new int[] {1, 1, 0, 1, 0xc5}, 0, grows, 0, 5);
-        check.equal("a width without an end", poked(grows).decode(40), 0);
+        check.equal("a width without an end", Make.poked(grows).decode(40), 0);
         // It grows by 41: forty-four bits of length, of which only the last one is 1.
         int[] wide = {1, 1, 0, 1, 0xc5, 0xff, 0xff, 0xff, 0xff, 0xff, 0, 0, 0, 0, 0, 0x08, 0x5a};
-        check.equal("a width of 44", poked(wide).decode(17), 1);
-        check.equal("a width of 44, cut", poked(wide).decode(16), 0);
+        check.equal("a width of 44", Make.poked(wide).decode(17), 1);
+        check.equal("a width of 44, cut", Make.poked(wide).decode(16), 0);
         // Forty-four bits of length that begin with a 1: more bytes than an int can count.
         wide[10] = 0x40;
-        check.equal("a length beyond an int", poked(wide).decode(17), 0);
+        check.equal("a length beyond an int", Make.poked(wide).decode(17), 0);
         // A head that says that there is something, and for each band that there is nothing.
-        check.equal("a head without a band", poked(1, 1, 0, 1, 0x80).decode(5), 1);
-        check.equal("a head of empty bands alone", poked(1, 1, 1, 1, 0x00, 0x80).decode(6), 2);
+        check.equal("a head without a band", Make.poked(1, 1, 0, 1, 0x80).decode(5), 1);
+        check.equal("a head of empty bands alone", Make.poked(1, 1, 1, 1, 0x00, 0x80).decode(6), 2);
     }
 
     /** The planes are told once, and the width of lengths stays grown. */
@@ -653,9 +625,9 @@ final class PromiseTests {
         check.subject("promise 12");
         // 1, 1, 0010, 0, 10, 0001 and a byte; then 1, 1, 10, 0, and 5 bits of length, 00001, and a byte
         int[] stream = {1, 1, 0, 2, 0xc9, 0x08, 0x55, 0xe0, 0x40, 0x66};
-        check.equal("first layer", poked(stream).decode(7), 1);
-        check.equal("second layer cut", poked(stream).decode(9), 1);
-        WaveletStream w = poked(stream);
+        check.equal("first layer", Make.poked(stream).decode(7), 1);
+        check.equal("second layer cut", Make.poked(stream).decode(9), 1);
+        WaveletStream w = Make.poked(stream);
         check.equal("second layer", w.decode(10), 2);
         check.equal("taken(0)", w.taken(0), 3);
     }
@@ -663,17 +635,17 @@ final class PromiseTests {
     private void pixelsAreCutToTheirBounds() {
         check.subject("promises 12 and 13");
         // 12 planes, 34 passes, no bytes: all is read from ff
-        WaveletStream w = poked(1, 1, 0, 1, 0xf3, 0xf8, 0x00);
+        WaveletStream w = Make.poked(1, 1, 0, 1, 0xf3, 0xf8, 0x00);
         w.decode(7);
         check.equal("of bytes that are not there", w.decoded(0, 0), 128);
         // One pass of 12 planes: a byte 0 makes the first bit a 1, and the sign.
-        w = poked(1, 1, 0, 1, 0xf0, 0x20, 0x00);
+        w = Make.poked(1, 1, 0, 1, 0xf0, 0x20, 0x00);
         check.equal("decode(7)", w.decode(7), 1);
         int low = w.decoded(0, 0);
         boolean anyHigh = false;
         boolean anyLow = low == 0;
         for (int b = 0; b < 256; b++) {
-            WaveletStream v = poked(1, 1, 0, 1, 0xf0, 0x20, b);
+            WaveletStream v = Make.poked(1, 1, 0, 1, 0xf0, 0x20, b);
             v.decode(7);
             int pixel = v.decoded(0, 0);
             anyHigh |= pixel == 255;
@@ -687,7 +659,7 @@ final class PromiseTests {
     /** Poked bytes ff 8f bring C above A; it then grows without end, and every bit is as the state says. */
     private void readingFarAboveItsBounds() {
         check.subject("promise 12");
-        WaveletStream w = poked();
+        WaveletStream w = Make.poked();
         Reference due = new Reference();
         // 8 x 8, no levels: 12 planes, 34 passes, the width does not grow, 60 bytes
         int[] stream = new int[67];
@@ -706,7 +678,7 @@ final class PromiseTests {
 
     private void takenOfBands() {
         check.subject("promise 14");
-        WaveletStream w = noise(8, 1, 8);
+        WaveletStream w = Make.noise(8, 1, 8);
         int size = w.encode(1, 1);
         check.equal("before any decoding", w.taken(0), NONE);
         w.decode(4);
@@ -727,7 +699,7 @@ final class PromiseTests {
 
     private void differences() {
         check.subject("promise 15");
-        WaveletStream w = drawn(2, 2, 1, 2, 3, 4);
+        WaveletStream w = Make.drawn(2, 2, 1, 2, 3, 4);
         w.decode(w.encode(1, 1));
         check.equal("the same", w.difference(), 0);
         w.paint(1, 1, 250);

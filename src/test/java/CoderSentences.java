@@ -1,0 +1,313 @@
+import java.util.Arrays;
+import java.util.Random;
+
+/** The document's "Terms", sentence by sentence: the coder, telling and reading, codewords and least lengths. */
+final class CoderSentences extends Sentences {
+    private CoderSentences(Check check, String document) {
+        super(check, document);
+    }
+
+    static void run(Check check, String document) {
+        CoderSentences t = new CoderSentences(check, document);
+        t.firstStates();
+        t.likelyBits();
+        t.tellingTheLikelyBit();
+        t.tellingTheOtherBit();
+        t.mending();
+        t.carry();
+        t.carryToFf();
+        t.behindFf();
+        t.end();
+        t.behindTheLastByte();
+        t.readingFf();
+        t.readingOthers();
+        t.readingFirst();
+        t.readingTheLowPart();
+        t.readingTheHighPart();
+        t.readingWithoutBound();
+        t.codeword();
+        t.leastLength();
+    }
+
+    private void firstStates() {
+        says("for each context a LIKELY bit (at first 0) and a STATE 0 .. 46 (at first 46 for context 18, 3 for 17, "
+            + "4 for 0, 0 for others).");
+        codes("LL", "1", "03");
+        codes("LL", "-1", "07");
+        codes("LL", "0 / 0 / 0 / 0 / -1", "19");
+        codes("HH", "0 / 0 / 0 / -1", "01");
+        // a new coder for each band, and for each encoding
+        WaveletStream w = Make.noise(8, 8, 3);
+        w.encode(1, 1);
+        w.picture(1, 1);
+        w.paint(0, 0, 127);
+        for (int k = 0; k < 2; k++) {
+            w.encode(0, 1);
+            same("codeword of -1", Make.codeword(w, 0), 7);
+        }
+        // nothing but 0 is likely at first: from no bytes only 0 is read
+        for (int side = 1; side <= 8; side++) {
+            int[] all = new int[side * side];
+            same("numbers of no bytes", numbersOf(Make.oneBand(side, side, 7, 19)), all);
+        }
+    }
+
+    private void likelyBits() {
+        says("in 0, 6 and 14 the likely bit changes then.");
+        codes("LL", "-1 -1 0", "08 3f");
+        codes("HH", "0 -2 -2 0", "0b c9");
+        codes("LL", "0 / -2 / 1 / -1 / -1 / 0", "0c 9f df");
+        // in 4, 5 and others it does not
+        codes("LL", "-1 0 0", "07");
+        codes("LL", "0 -1 0 0", "0b");
+    }
+
+    private void tellingTheLikelyBit() {
+        says("For the likely bit: if A is below 8000: if A is below q, A becomes q, otherwise C becomes C + q;");
+        // A comes to be 8000 itself, which is not below it
+        codes("LH", "-1 0 0 0 / 0 0 0 0 / 0 1 0 1", "06 54 df");
+        codes("LL", "0 / -2 / 0 / 2 / -4 / 0", "18 54 13");
+        // A comes to be q itself, 5601: C becomes C + q
+        codes("HH", "1 0", "03");
+        codes("HH", "1 0 / 0 0", "04");
+        says("otherwise C becomes C + q. For the other bit:");
+        codes("HH", "0 0 -1", "0d");
+        codes("LL", "-1 0 0", "07");
+    }
+
+    private void tellingTheOtherBit() {
+        says("For the other bit: if A is below q, C becomes C + q, otherwise A becomes q;");
+        // A is above q; A is below q; A is q itself
+        codes("LL", "1", "03");
+        codes("LL", "-1", "07");
+        codes("HH", "1 1", "01");
+        codes("HH", "1 -1", "00");
+    }
+
+    private void mending() {
+        says("To mend: A and C are doubled, T is one less, if T is 0 a byte goes OUT; again, until A is 8000 or more.");
+        // A comes to be 8000 itself
+        codes("HH", "-1 -1 -1 0 / 0 0 0 1 / 0 1 1 0", "06 26 25");
+        codes("LL", "0 / -2 / 0 / 2 / -4 / 0", "18 54 13");
+        // one bright pixel in every place of every picture: so many likely bits before the first other one
+        for (int width = 1; width <= 8; width++) {
+            for (int height = 1; height <= 8; height++) {
+                onePixel(width, height);
+            }
+        }
+    }
+
+    private void onePixel(int width, int height) {
+        for (int place = 0; place < width * height; place++) {
+            int[][] rows = new int[height][width];
+            rows[place / width][place % width] = 1;
+            WaveletStream w = Make.ofBand("LL", rows);
+            Reference.Band due = new Reference.Band("LL", rows);
+            Reference.code(due);
+            same(width + " x " + height + ", place " + place, Make.codeword(w, 0), Make.ints(due.codeword));
+            w.decode(Make.stream(w).length);
+            check.equal("difference()", w.difference(), 0);
+        }
+    }
+
+    private void carry() {
+        says("OUT: if the last byte is not ff, and C is 8000000 or more, 1 is added to that byte,");
+        codes("HH", "0 -6", "0c 0f");
+        // C is 8000000 itself (found by trying: about one byte in 400 million)
+        codes("LL", "0 0 0 / -8 0 0 / 0 0 0 / 0 0 126 / 47 0 0 / 0 -45 0", "1e e0 65 aa 00 18 fe 15");
+    }
+
+    private void carryToFf() {
+        says("and if it is ff then, C loses its bit of 8000000.");
+        codes("HH", "-1 -3 0 / 0 -3 -3", "0d ff 07");
+    }
+
+    private void behindFf() {
+        says("Now, if the last byte is ff: a new byte is C / 100000, C the rest, T is 7; otherwise the new byte is "
+            + "C / 80000, C the rest, T is 8 (all hexadecimal; of both the lowest eight bits are the byte).");
+        codes("LL", "0 0 / -1 1", "0b ff 7f");
+        codes("HL", "-3 -5 -2", "0b ff 67");
+        codes("LL", "0 / -1 / 0 / 1 / 0 / -2", "1d ff 53");
+        // the last byte was ff, and C is 8000000 or more: the byte behind it has its highest bit, up to 8f
+        codes("HH", "-3 -4 -3 0", "0b ff 81");
+        codes("LL", "-44 / -31 / 18", "05 ff 80");
+        codes("LL", "0 0 -15 / 0 -55 0 / -47 0 0", "0d f7 b4 ff 8f 7f");
+    }
+
+    /** That C is U itself can't be: U is even, as C + A is from the first on, and C ends with a bit 1. */
+    private void end() {
+        says("In the END: let U be C + A; C gets its 16 lowest bits all 1, and if it is U or more then, it is 8000 "
+            + "less; twice: C is doubled T times, and a byte goes out. If the last byte is ff, it is left out.");
+        // less 8000, and not; the last byte left out, and not
+        codes("LL", "1", "03");
+        codes("LL", "-1", "07");
+        codes("LL", "-1 -1 0", "08 3f");
+        codes("HL", "-3 0", "06 7f");
+        for (int seed = 0; seed < 300; seed++) {
+            WaveletStream w = Make.noise(1 + seed % 8, 1 + seed / 8 % 8, seed);
+            w.encode(seed % 4, 1);
+            for (int b = 0; w.band(b, 4) != NONE; b++) {
+                int bytes = w.band(b, 4);
+                check.that("a codeword ends with ff", bytes == 0 || w.codeword(b, bytes - 1) != 0xff);
+            }
+        }
+        says("and bytes (one at first, 0, that is left out in the end):");
+        codes("LL", "1 -1", "00");
+        codes("LL", "1 / -1", "00");
+    }
+
+    private void behindTheLastByte() {
+        says("READING from bytes (behind the last one stands ff, always):");
+        reads("", 1, 1, "0 / 0");
+        reads("", 12, 34, "0 0 0 0 / 0 0 0 0 / 0 0 0 0 / 0 0 0 0");
+        reads("06", 3, 1, "-4 -4 / 0 4 / 0 -4");
+        reads("10", 1, 1, "-1 / -1 / 0 / 0");
+        // bytes ff behind the last one change nothing
+        reads("06 ff", 3, 1, "-4 -4 / 0 4 / 0 -4");
+        reads("06 ff ff ff", 3, 1, "-4 -4 / 0 4 / 0 -4");
+        reads("ff ff", 1, 1, "0 / 0");
+        // what stands in the stream behind a band's bytes is not read
+        int[] one = Make.oneBand(2, 3, 3, 1, 6);
+        WaveletStream w = Make.poked(Make.join(one, new int[] {0, 0, 0, 0}));
+        w.decode(one.length + 4);
+        check.equal("number (0, 0)", w.decoded(0, 0), 124);
+        check.equal("number (1, 2)", w.decoded(1, 2), 124);
+    }
+
+    private void readingFf() {
+        says("a byte comes IN: if the byte at the place is ff and the next one is above 8f, C becomes C + ff00, T is 8;");
+        reads("0b ff 8f", 1, 1, "0 -1 0 0 / -1 1 0 0 / 0 0 0 0");
+        reads("0b ff 90", 1, 1, "0 -1 0 0 / -1 1 0 1 / 0 0 0 0");
+        reads("1d ff 90", 1, 1, "0 0 0 1 / 0 0 0 -1 / 0 0 1 1 / 0 0 -1 -1");
+        reads("0b", 1, 1, "0 -1 0 0 / -1 1 0 1 / 0 0 0 0");
+        reads("01", 1, 1, "1 -1 / 1 1 / 1 0");
+        reads("0a", 2, 1, "0 0 0 0 / -2 2 0 -2 / 2 2 2 2 / 2 2 0 -2");
+        reads("13", 2, 1, "2 2 2 0 / 2 2 2 0 / 2 2 0 2 / 2 2 -2 2");
+        // the place stays: all that stands behind is ff
+        reads("0b ff 90 00 00", 1, 1, "0 -1 0 0 / -1 1 0 1 / 0 0 0 0");
+        // a picture whose codeword has ff 8f
+        codes("LL", "0 0 -15 / 0 -55 0 / -47 0 0", "0d f7 b4 ff 8f 7f");
+    }
+
+    private void readingOthers() {
+        says("if it is ff and the next is not, the place is one on, that byte * 200 is added to C, T is 7; if it is not "
+            + "ff, the place is one on, that byte * 100 is added, T is 8.");
+        reads("13 ff 40", 1, 1, "1 1 / 1 1 / 1 1 / 1 1");
+        reads("01 ff 23", 3, 1, "4 -4 0 4 / 4 4 -4 0 / 4 0 4 4");
+        reads("13 ff 63", 3, 1, "4 4 -4 4 / 4 4 -4 4 / 4 4 -4 4 / 4 4 -4 4");
+        reads("00 ff 8c", 3, 1, "4 0 4 / -4 -4 4 / 4 4 0");
+        reads("08 90", 1, 1, "0 0 -1 0 / 0 1 -1 0 / 1 1 0 0 / -1 0 1 -1");
+    }
+
+    private void readingFirst() {
+        says("At first the place is 0, C is the first byte * 10000, a byte comes in, C is doubled 7 times, T is 7 less, "
+            + "A is 8000.");
+        reads("08", 1, 1, "-1");
+        reads("04", 1, 1, "1");
+        reads("05", 2, 1, "-2");
+        reads("0b", 6, 1, "0");
+        reads("10", 1, 1, "-1 / -1 / 0 / 0");
+        // the first byte is ff, and the next one is or is not above 8f
+        reads("ff 00", 1, 1, "0 0 / 0 0");
+        reads("ff 8f", 1, 1, "0 0 / 0 0");
+        reads("ff 90", 1, 1, "0 0 / 0 0");
+    }
+
+    private void readingTheLowPart() {
+        says("If C / 10000 is below q: the bit is the likely one if A is below q, otherwise the other one; A becomes q.");
+        // C / 10000 comes to be q itself
+        reads("0a 42", 6, 6, "24");
+        // A comes to be q itself
+        reads("01", 2, 1, "2 / 2");
+        reads("04", 1, 1, "1 / 0");
+    }
+
+    private void readingTheHighPart() {
+        says("If it is not: C loses q * 10000; if A is 8000 or more, the bit is the likely one, and that is all; "
+            + "otherwise the bit is the other one if A is below q, the likely one if not.");
+        reads("0d", 2, 1, "0 / 0 / -2");
+        reads("07", 2, 1, "-2 / 0");
+        // A comes to be 8000 itself, and is so when it was mended
+        codes("LH", "-1 0 0 0 / 0 0 0 0 / 0 1 0 1", "06 54 df");
+        reads("08 90", 1, 1, "0 0 -1 0 / 0 1 -1 0 / 1 1 0 0 / -1 0 1 -1");
+        says("if T is 0 a byte comes in; A and C are doubled, T is one less; until A is 8000 or more.");
+        reads("0f fd", 3, 2, "2 -4 0 / 0 4 0 / 2 -4 4");
+    }
+
+    /** Poked bytes ff 8f again and again bring C above A; it is a number without a bound. */
+    private void readingWithoutBound() {
+        says("A and C are doubled, T is one less; until A is 8000 or more.");
+        int[] code = new int[60];
+        for (int i = 0; i < code.length; i++) {
+            code[i] = i % 2 == 0 ? 0xff : 0x8f;
+        }
+        for (int first = 0; first < 256; first += 5) {
+            code[0] = first;
+            int[] stream = Make.oneBand(8, 8, 7, 19, code);
+            Reference reference = new Reference();
+            for (int b : stream) {
+                reference.stream.add(b);
+            }
+            reference.decode(stream.length);
+            int[] due = new int[64];
+            for (int i = 0; i < due.length; i++) {
+                due[i] = reference.decoded(i % 8, i / 8) - 128;
+            }
+            same("numbers, first byte " + first, numbersOf(stream), due);
+        }
+    }
+
+    private void codeword() {
+        says("A band's CODEWORD is the coder's bytes of all its passes.");
+        codes("LL", "5 0", "05 3f");
+        // none, if there are no passes
+        WaveletStream w = Make.drawn(2, 1, 128, 128);
+        w.encode(1, 1);
+        for (int b = 0; b < 4; b++) {
+            check.equal("bytes of band " + b, w.band(b, 4), 0);
+            check.equal("codeword(" + b + ", 0)", w.codeword(b, 0), NONE);
+        }
+    }
+
+    private void leastLength() {
+        says("THE LEAST LENGTH for so many passes is the least number of bytes of it from which (with ff behind) all "
+            + "these passes are read right; 0 for no passes.");
+        for (int seed = 0; seed < 24; seed++) {
+            int width = 1 + seed % 5;
+            int height = 1 + seed * 7 % 6;
+            int[] pixels = new int[width * height];
+            Random random = new Random(seed);
+            int reach = 1 << 1 + seed % 6;
+            for (int i = 0; i < pixels.length; i++) {
+                pixels[i] = 128 + random.nextInt(2 * reach) - reach + 1;
+            }
+            WaveletStream w = Make.drawn(width, height, pixels);
+            w.encode(0, 1);
+            check.equal("least(0, 0)", w.least(0, 0), 0);
+            int[] code = Make.codeword(w, 0);
+            for (int passes = 1; passes <= w.band(0, 3); passes++) {
+                int least = w.least(0, passes);
+                int[] due = numbersOf(Make.oneBand(width, height, w.band(0, 2), passes, code));
+                for (int n = 0; n <= code.length; n++) {
+                    int[] some = Arrays.copyOf(code, n);
+                    boolean right = Arrays.equals(due,
+                        numbersOf(Make.oneBand(width, height, w.band(0, 2), passes, some)));
+                    check.that(n + " bytes for " + passes + " passes, least is " + least,
+                        n > least || right == (n == least));
+                }
+            }
+        }
+        // 0b ff 7f: what stands behind 0b is as good as ff without an end
+        WaveletStream w = Make.ofBand("LL", Make.rows("0 0 / -1 1"));
+        check.equal("bytes", w.band(0, 4), 3);
+        check.equal("least(0, 1)", w.least(0, 1), 1);
+        check.equal("byte behind the head", w.stream(Make.stream(w).length - 1), 0x0b);
+        // for no passes, whatever the band is
+        w = Make.drawn(1, 2, 128, 128);
+        w.encode(1, 1);
+        for (int b = 0; b < 4; b++) {
+            check.equal("least(" + b + ", 0)", w.least(b, 0), 0);
+            check.equal("least(" + b + ", 1)", w.least(b, 1), NONE);
+        }
+    }
+}
