@@ -313,8 +313,8 @@ final class CallSentences extends Sentences {
     }
 
     private void band() {
-        says("what = 0 its width, 1 its height, 2 its planes, 3 its passes, 4 how many bytes its codeword has. NONE when "
-            + "there is none such.");
+        says("what = 0 its width, 1 its height, 2 its planes, 3 its passes, 4 how many bytes its codeword has. NONE "
+            + "when there is none such.");
         WaveletStream w = Make.ofBand("HH", Make.rows("0 -2 -2 0"));
         int[] due = {4, 1, 2, 4, 2};
         for (int what = 0; what < 5; what++) {
@@ -430,8 +430,8 @@ final class CallSentences extends Sentences {
     }
 
     private void decodeRefused() {
-        says("IllegalArgumentException when n is below 4 or there are not so many, or the stream is malformed: what was "
-            + "decoded before stays.");
+        says("IllegalArgumentException when n is below 4 or there are not so many, or the stream is malformed: what "
+            + "was decoded before stays.");
         WaveletStream w = Make.noise(3, 3, 1);
         int size = w.encode(1, 1);
         w.decode(size);

@@ -13,6 +13,7 @@ final class CoderSentences extends Sentences {
         t.likelyBits();
         t.tellingTheLikelyBit();
         t.tellingTheOtherBit();
+        t.nextStates();
         t.mending();
         t.carry();
         t.carryToFf();
@@ -73,6 +74,19 @@ final class CoderSentences extends Sentences {
         says("otherwise C becomes C + q. For the other bit:");
         codes("HH", "0 0 -1", "0d");
         codes("LL", "-1 0 0", "07");
+    }
+
+    private void nextStates() {
+        says("the state is the next one, and A is MENDED; otherwise C becomes C + q.");
+        codes("HH", "0 -1", "0b");
+        codes("HH", "0 0 -1", "0d");
+        codes("LL", "0 -1 0 0", "0b");
+        says("the state is the next one for that, and A is mended.");
+        codes("LL", "-1 0 0", "07");
+        codes("LL", "-1 -1 0", "08 3f");
+        says("The state is the next one for this bit, and A is mended:");
+        reads("10", 1, 1, "-1 / -1 / 0 / 0");
+        reads("0b", 1, 1, "0 -1 0 0 / -1 1 0 1 / 0 0 0 0");
     }
 
     private void tellingTheOtherBit() {
@@ -175,7 +189,8 @@ final class CoderSentences extends Sentences {
     }
 
     private void readingFf() {
-        says("a byte comes IN: if the byte at the place is ff and the next one is above 8f, C becomes C + ff00, T is 8;");
+        says("a byte comes IN: if the byte at the place is ff and the next one is above 8f, C becomes C + ff00, "
+            + "T is 8;");
         reads("0b ff 8f", 1, 1, "0 -1 0 0 / -1 1 0 0 / 0 0 0 0");
         reads("0b ff 90", 1, 1, "0 -1 0 0 / -1 1 0 1 / 0 0 0 0");
         reads("1d ff 90", 1, 1, "0 0 0 1 / 0 0 0 -1 / 0 0 1 1 / 0 0 -1 -1");
@@ -190,8 +205,8 @@ final class CoderSentences extends Sentences {
     }
 
     private void readingOthers() {
-        says("if it is ff and the next is not, the place is one on, that byte * 200 is added to C, T is 7; if it is not "
-            + "ff, the place is one on, that byte * 100 is added, T is 8.");
+        says("if it is ff and the next is not, the place is one on, that byte * 200 is added to C, T is 7; if it is "
+            + "not ff, the place is one on, that byte * 100 is added, T is 8.");
         reads("13 ff 40", 1, 1, "1 1 / 1 1 / 1 1 / 1 1");
         reads("01 ff 23", 3, 1, "4 -4 0 4 / 4 4 -4 0 / 4 0 4 4");
         reads("13 ff 63", 3, 1, "4 4 -4 4 / 4 4 -4 4 / 4 4 -4 4 / 4 4 -4 4");
@@ -200,8 +215,8 @@ final class CoderSentences extends Sentences {
     }
 
     private void readingFirst() {
-        says("At first the place is 0, C is the first byte * 10000, a byte comes in, C is doubled 7 times, T is 7 less, "
-            + "A is 8000.");
+        says("At first the place is 0, C is the first byte * 10000, a byte comes in, C is doubled 7 times, T is 7 "
+            + "less, A is 8000.");
         reads("08", 1, 1, "-1");
         reads("04", 1, 1, "1");
         reads("05", 2, 1, "-2");
@@ -214,7 +229,8 @@ final class CoderSentences extends Sentences {
     }
 
     private void readingTheLowPart() {
-        says("If C / 10000 is below q: the bit is the likely one if A is below q, otherwise the other one; A becomes q.");
+        says("If C / 10000 is below q: the bit is the likely one if A is below q, otherwise the other one; "
+            + "A becomes q.");
         // C / 10000 comes to be q itself
         reads("0a 42", 6, 6, "24");
         // A comes to be q itself
@@ -234,7 +250,7 @@ final class CoderSentences extends Sentences {
         reads("0f fd", 3, 2, "2 -4 0 / 0 4 0 / 2 -4 4");
     }
 
-    /** Poked bytes ff 8f again and again bring C above A; it is a number without a bound. */
+    /** Poked bytes ff 88 to ff 8f can bring C above A; it is a number without a bound. */
     private void readingWithoutBound() {
         says("A and C are doubled, T is one less; until A is 8000 or more.");
         int[] code = new int[60];
@@ -243,25 +259,39 @@ final class CoderSentences extends Sentences {
         }
         for (int first = 0; first < 256; first += 5) {
             code[0] = first;
-            int[] stream = Make.oneBand(8, 8, 7, 19, code);
-            Reference reference = new Reference();
-            for (int b : stream) {
-                reference.stream.add(b);
-            }
-            reference.decode(stream.length);
-            int[] due = new int[64];
-            for (int i = 0; i < due.length; i++) {
-                due[i] = reference.decoded(i % 8, i / 8) - 128;
-            }
-            same("numbers, first byte " + first, numbersOf(stream), due);
+            readsLikeTheReference(8, 8, 7, 19, code);
         }
+        // 32 bits are too few for C, and so are 64
+        readsLikeTheReference(8, 8, 9, 23,
+            Make.bytes("85 78 ff 8c c5 b6 bf c6 31 f1 07 4c c1 5c 4e 5a c5 e8 5b"));
+        readsLikeTheReference(6, 7, 8, 20,
+            Make.bytes("70 3b 3e ff 8b ff 8f 2b d6 d0 18 51 1f 5b 7a 08 29 a4"));
+        readsLikeTheReference(8, 7, 11, 29, Make.bytes("90 69 5a 67 ec 3e ff 8e ff 8f"));
+    }
+
+    private void readsLikeTheReference(int width, int height, int planes, int passes, int... code) {
+        int[] stream = Make.oneBand(width, height, planes, passes, code);
+        Reference reference = new Reference();
+        for (int b : stream) {
+            reference.stream.add(b);
+        }
+        reference.decode(stream.length);
+        int[] due = new int[width * height];
+        for (int i = 0; i < due.length; i++) {
+            due[i] = reference.decoded(i % width, i / width) - 128;
+        }
+        same("numbers", numbersOf(stream), due);
     }
 
     private void codeword() {
         says("A band's CODEWORD is the coder's bytes of all its passes.");
         codes("LL", "5 0", "05 3f");
-        // none, if there are no passes
-        WaveletStream w = Make.drawn(2, 1, 128, 128);
+        // none, if there are no passes, nor any of an encoding before
+        WaveletStream w = Make.noise(8, 8, 1);
+        w.encode(1, 1);
+        w.picture(2, 1);
+        w.paint(0, 0, 128);
+        w.paint(1, 0, 128);
         w.encode(1, 1);
         for (int b = 0; b < 4; b++) {
             check.equal("bytes of band " + b, w.band(b, 4), 0);

@@ -103,6 +103,17 @@ final class Make {
             new Reference.Band("LH", lh), new Reference.Band("HH", hh)), 1), 1);
     }
 
+    /** A picture of 8 x 8 whose bands, of so many levels, are 0 but for this one. */
+    static WaveletStream deep(int levels, int b, int[][] numbers) {
+        String[] kinds = {"HH", "HL", "LH"};
+        List<Reference.Band> bands = new ArrayList<>();
+        for (int k = 0; k <= 3 * levels; k++) {
+            int side = k == 0 ? 8 >> levels : 8 >> levels - (k - 1) / 3;
+            bands.add(new Reference.Band(k == 0 ? "LL" : kinds[k % 3], k == b ? numbers : new int[side][side]));
+        }
+        return encoded(Reference.join(bands, levels), levels);
+    }
+
     private static WaveletStream encoded(int[][] numbers, int levels) {
         WaveletStream w = new WaveletStream();
         w.picture(numbers[0].length, numbers.length);

@@ -11,12 +11,14 @@ final class PassSentences extends Sentences {
         t.stripes();
         t.awake();
         t.outsideOfTheBand();
+        t.besideAndAcross();
         t.rowContexts();
         t.cornerContextsOfRows();
         t.turnedContexts();
         t.manyCorners();
         t.twoCorners();
         t.fewCorners();
+        t.kindsOnEveryLevel();
         t.spreading();
         t.refining();
         t.refiningAgain();
@@ -57,8 +59,9 @@ final class PassSentences extends Sentences {
             w.encode(0, 1);
             check.equal("planes", w.band(0, 2), p);
             check.equal("passes of " + p + " planes", w.band(0, 3), p == 0 ? 0 : 3 * p - 2);
-            check.equal("least length of the last pass", w.least(0, p == 0 ? 0 : 3 * p - 2) > 0 ? 1 : 0, p == 0 ? 0 : 1);
-            check.equal("and of one more", w.least(0, p == 0 ? 1 : 3 * p - 1), NONE);
+            int all = p == 0 ? 0 : 3 * p - 2;
+            check.that("least length of all passes", p == 0 ? w.least(0, all) == 0 : w.least(0, all) > 0);
+            check.equal("and of one more", w.least(0, all + 1), NONE);
         }
     }
 
@@ -108,6 +111,28 @@ final class PassSentences extends Sentences {
         // the ends of rows and columns: none beyond them, and none at the other end
         tells("LL", "0 1 / 0 0 / 0 1", "0:0 0:0 0:0 0:1 9:0 3:0 0:1 9:0 |");
         tells("LH", "0 0 0 1 / 1 0 0 0", "0:0 0:1 9:0 1:0 5:0 0:0 0:0 0:1 9:0 3:0 |");
+    }
+
+    private void besideAndAcross() {
+        says("For a number, h, v and e are how many are awake of the two beside it in its row, in its column, and of "
+            + "the four across corners.");
+        // one that is awake, in each place round the number in the middle
+        tells("LL", "2 0 0 / 0 0 0 / 0 0 0", "0:1 9:0 3:0 0:0 5:0 1:0 0:0 0:0 0:0 0:0 "
+            + "| 3:0 5:0 1:0 | 14:0 | 0:0 0:0 0:0 0:0 0:0 |");
+        tells("LL", "0 0 0 / 2 0 0 / 0 0 0", "0:0 0:1 9:0 3:0 1:0 5:0 1:0 0:0 0:0 0:0 "
+            + "| 3:0 3:0 1:0 5:0 1:0 | 14:0 | 0:0 0:0 0:0 |");
+        tells("LL", "0 0 0 / 0 0 0 / 2 0 0", "0:0 0:0 0:1 9:0 0:0 1:0 5:0 0:0 0:0 0:0 "
+            + "| 3:0 1:0 5:0 | 14:0 | 0:0 0:0 0:0 0:0 0:0 |");
+        tells("LL", "0 2 0 / 0 0 0 / 0 0 0", "0:0 0:0 0:0 0:1 9:0 3:0 0:0 5:0 1:0 0:0 "
+            + "| 5:0 1:0 3:0 5:0 1:0 | 14:0 | 0:0 0:0 0:0 |");
+        tells("LL", "0 0 0 / 0 0 0 / 0 2 0", "0:0 0:0 0:0 0:0 0:0 0:1 9:0 0:0 1:0 5:0 "
+            + "| 1:0 5:0 3:0 1:0 5:0 | 14:0 | 0:0 0:0 0:0 |");
+        tells("LL", "0 0 2 / 0 0 0 / 0 0 0", "0:0 0:0 0:0 0:0 0:0 0:0 0:1 9:0 3:0 0:0 "
+            + "| 5:0 1:0 3:0 | 14:0 | 0:0 0:0 0:0 0:0 0:0 |");
+        tells("LL", "0 0 0 / 0 0 2 / 0 0 0", "0:0 0:0 0:0 0:0 0:0 0:0 0:0 0:1 9:0 3:0 "
+            + "| 1:0 5:0 1:0 3:0 3:0 | 14:0 | 0:0 0:0 0:0 |");
+        tells("LL", "0 0 0 / 0 0 0 / 0 0 2", "0:0 0:0 0:0 0:0 0:0 0:0 0:0 0:0 0:1 9:0 "
+            + "| 1:0 5:0 3:0 | 14:0 | 0:0 0:0 0:0 0:0 0:0 |");
     }
 
     private void rowContexts() {
@@ -204,6 +229,38 @@ final class PassSentences extends Sentences {
             + "| 2:0 2:0 2:0 1:0 6:0 1:0 | 15:0 15:0 15:0 | |");
     }
 
+    private void kindsOnEveryLevel() {
+        says("ITS CONTEXT, of LL and LH:");
+        String[] kinds = {"HL", "LH", "HH"};
+        for (int levels = 1; levels <= 3; levels++) {
+            for (int b = 1; b <= 3 * levels; b++) {
+                int side = 8 >> levels - (b - 1) / 3;
+                int[][] rows = Make.rows("1");
+                if (side > 1) {
+                    rows = Make.rows("1 -1 / 0 -1");
+                }
+                if (side > 2) {
+                    rows = Make.rows("2 0 0 0 / 0 0 -2 0 / 0 1 0 0 / 3 0 0 1");
+                }
+                WaveletStream w = Make.deep(levels, b, rows);
+                check.equal("number(" + b + ", 0, 0)", w.number(b, 0, 0), rows[0][0]);
+                Reference.Band due = new Reference.Band(kinds[(b - 1) % 3], rows);
+                Reference.code(due);
+                same("codeword of band " + b + " of " + levels + " levels", Make.codeword(w, b),
+                    Make.ints(due.codeword));
+                w.decode(Make.stream(w).length);
+                check.equal("difference()", w.difference(), 0);
+            }
+        }
+        // that the three kinds of 2 x 2 and of 4 x 4 differ at all
+        tells("HL", "1 -1 / 0 -1", "0:1 9:0 5:0 3:1 12:1 6:1 10:0 |", "02");
+        tells("LH", "1 -1 / 0 -1", "0:1 9:0 3:0 5:1 12:1 3:1 10:0 |", "02 df");
+        tells("HH", "1 -1 / 0 -1", "0:1 9:0 1:0 1:1 12:1 4:1 10:0 |", "02 cf");
+        codes("HL", "2 0 0 0 / 0 0 -2 0 / 0 1 0 0 / 3 0 0 1", "14 3a 16 86 ec");
+        codes("LH", "2 0 0 0 / 0 0 -2 0 / 0 1 0 0 / 3 0 0 1", "14 3a 16 86 1c");
+        codes("HH", "2 0 0 0 / 0 0 -2 0 / 0 1 0 0 / 3 0 0 1", "14 3b 72 76 29");
+    }
+
     private void spreading() {
         says("SPREADING tells the bit (in this plane) of each number that is not awake and whose context is above 0, "
             + "in that context; if it is 1, its SIGN.");
@@ -229,6 +286,9 @@ final class PassSentences extends Sentences {
         tells("LH", "-1 -2 0 -2", "0:0 0:1 9:1 5:0 0:1 9:1 | 5:1 12:0 8:0 | 15:0 14:0 | |");
         tells("HH", "-1 -2 / -2 0", "0:0 0:1 9:1 3:1 9:1 2:0 | 2:1 13:0 5:0 | 15:0 15:0 | |");
         tells("HH", "-1 -2 / 0 -2", "0:0 0:0 0:1 9:1 1:1 10:0 | 4:1 12:0 5:0 | 15:0 15:0 | |");
+        // 14 is no context of a sign: 13 is
+        tells("LL", "-1 -1 / 0 -6", "0:0 0:0 0:0 0:1 9:1 | 1:0 5:0 3:0 | 14:1 | | 1:1 9:1 7:0 7:1 13:0 | 16:0 | |",
+            "10 5f 3f");
         // woken in the cleanup of the plane before: refined in this one
         tells("LL", "4 0 2", "0:1 9:0 5:0 0:0 | 5:0 | 14:0 | 0:1 9:0 | 8:0 | 16:0 14:0 | |");
     }
@@ -279,8 +339,8 @@ final class PassSentences extends Sentences {
     }
 
     private void cleanupOfOthers() {
-        says("All others that are not awake, and were not told in this plane: their bit, in their context, and if it is "
-            + "1 the sign.");
+        says("All others that are not awake, and were not told in this plane: their bit, in their context, and if it "
+            + "is 1 the sign.");
         tells("LL", "2 0 0 1", "0:1 9:0 5:0 0:0 0:0 | 5:0 | 14:0 | 0:0 0:1 9:0 |");
         tells("LL", "0 -3", "0:0 0:1 9:1 | 5:0 | 14:1 | |", "0b");
         // told in the plane before this one: told again, as it is asleep; also one that spreading told
@@ -310,11 +370,12 @@ final class PassSentences extends Sentences {
         tells("LL", "-1 0 / 0 1", "0:1 9:1 3:0 5:0 1:1 9:0 |");
         tells("HL", "1 1", "0:1 9:0 3:1 12:0 |");
         tells("HL", "1 / 1", "0:1 9:0 5:1 10:0 |");
+        tells("HL", "0 -1 / 1 -1", "0:0 0:1 9:0 1:1 9:1 7:1 11:1 |", "0a 47");
     }
 
     private void signTurned() {
-        says("If a is below 0, or a is 0 and b below 0, both are turned (a to -a, b to -b), and what is told is not the "
-            + "sign but the other bit.");
+        says("If a is below 0, or a is 0 and b below 0, both are turned (a to -a, b to -b), and what is told is not "
+            + "the sign but the other bit.");
         // (-1, 0), (0, -1), (-1, 1), (-1, -1); not (1, -1)
         tells("LL", "-1 -1", "0:1 9:1 5:1 12:0 |");
         tells("LL", "-1 1", "0:1 9:1 5:1 12:1 |");

@@ -53,11 +53,12 @@ final class StreamSentences extends Sentences {
     }
 
     private void packetsInTheirOrder() {
-        says("then for each layer from 1 on, of L layers, for each RESOLUTION r (0: band 0; others: bands 3r - 2 .. 3r) "
-            + "a PACKET.");
+        says("then for each layer from 1 on, of L layers, for each RESOLUTION r (0: band 0; others: bands 3r - 2 .. "
+            + "3r) a PACKET.");
         // one pass of band 1: in layer 2 alone, and behind the packet of band 0
         int[] head = Make.bits("1 1 0001 0 0 001 0 0");
-        same("HL", Make.stream(packed("HL", "1", 1, 2)), Make.join(new int[] {2, 2, 1, 2, 0, 0, 0}, head, Make.bytes("03")));
+        same("HL", Make.stream(packed("HL", "1", 1, 2)),
+            Make.join(new int[] {2, 2, 1, 2, 0, 0, 0}, head, Make.bytes("03")));
         // LH 2 has 4 passes: 2 and 2; on the level behind it nothing
         WaveletStream w = packed("LH", "2 2 / 2 2", 1, 2);
         int size = w.encode(1, 2);
@@ -213,10 +214,16 @@ final class StreamSentences extends Sentences {
         // of 2 x 1, with three levels, the last two have no band but LL: heads of 0
         check.equal("bytes", w.encode(3, 1), 4 + 3 + 1 + 1 + 3);
         same("2 x 1, three levels", Make.stream(w), Make.join(new int[] {2, 1, 3, 1}, one, new int[] {0, 0}, one));
-        // two bits more would need one byte more: 16 bits with HL alone (planes 2, four passes, two more in its width)
-        int[] full = Make.join(new int[] {2, 1, 1, 1, 0}, Make.bits("1 1 0010 11 01 110 000"), new int[8]);
-        packets("a head that fills two bytes but for four bits", 5 + 3, 2, full);
-        packets("that head, cut", 5 + 2, 1, full);
+        // HL 2 has 4 passes of 2 planes: 16 bits, so one bit more would need one byte more
+        w = Make.drawn(2, 1, 127, 129);
+        w.encode(1, 1);
+        check.equal("HL", w.number(1, 0, 0), 2);
+        check.equal("LL", w.number(0, 0, 0), 0);
+        int[] code = Make.codeword(w, 1);
+        same("16 bits", Make.stream(w), Make.join(new int[] {2, 1, 1, 1, 0},
+            Make.bits("1 1 0010 1101 0 00001"), code));
+        check.equal("packets", w.decode(Make.stream(w).length), 2);
+        check.equal("difference()", w.difference(), 0);
     }
 
     private void planesOfTheFirstOnes() {
@@ -237,8 +244,8 @@ final class StreamSentences extends Sentences {
     }
 
     private void howManyPasses() {
-        says("how many passes it gets, n: 0 for 1, 10 for 2, 11 and two bits of n - 3 for 3 .. 5, 1111 and five bits of "
-            + "n - 6 for 6 and more;");
+        says("how many passes it gets, n: 0 for 1, 10 for 2, 11 and two bits of n - 3 for 3 .. 5, 1111 and five bits "
+            + "of n - 6 for 6 and more;");
         boolean[] seen = new boolean[40];
         for (int p = 1; p <= 8; p++) {
             for (int layers = 1; layers <= 3; layers++) {
@@ -270,8 +277,8 @@ final class StreamSentences extends Sentences {
     }
 
     private void widthOfLengths() {
-        says("then as many bits 1 as its WIDTH OF LENGTHS (at first 3) must grow, and 0; then the number of bytes, in as "
-            + "many bits as that width and the logarithm of n (to 2, rounded down). It grows as little as it must.");
+        says("then as many bits 1 as its WIDTH OF LENGTHS (at first 3) must grow, and 0; then the number of bytes, in "
+            + "as many bits as that width and the logarithm of n (to 2, rounded down). It grows as little as it must.");
         // one pass: three bits hold up to 7, four up to 15, five up to 31
         int[] edges = {7, 8, 15, 16};
         String[] heads = {"0 111", "10 1000", "10 1111", "110 10000"};
@@ -371,6 +378,14 @@ final class StreamSentences extends Sentences {
         check.equal("whole", w.decode(both.length), 2);
         check.equal("taken(1)", w.taken(1), 1);
         check.equal("taken(2)", w.taken(2), 1);
+        // a packet without passes gives none, though the one before it of the same bands gave some
+        int[] later = Make.join(new int[] {2, 2, 1, 3, 0}, Make.bits("1 1 0010 0 0 001 1 0010 0 0 001 0"),
+            Make.bytes("03 07"), new int[] {0, 0, 0, 0x80});
+        w = Make.poked(later);
+        check.equal("packets", w.decode(later.length), 6);
+        for (int b = 0; b < 4; b++) {
+            check.equal("taken(" + b + ")", w.taken(b), b == 1 || b == 2 ? 1 : 0);
+        }
         // what follows a packet that is cut is not looked at as a packet
         int[] cut = Make.join(new int[] {1, 1, 0, 2}, Make.bits("1 1 0001 0 0 111"), new int[] {0, 0, 0});
         packets("a cut packet, then others", cut.length, 0, cut);
@@ -598,7 +613,8 @@ final class StreamSentences extends Sentences {
         says("a packet that is looked at");
         // behind the last packet nothing is looked at, nor behind one that is cut
         packets("bytes behind the last packet", 8, 1, 1, 1, 0, 1, 0, 0xff, 0xff, 0xff);
-        int[] cut = Make.join(new int[] {1, 1, 0, 2}, Make.bits("1 1 0001 0 0 011"), new int[] {255, 255, 255, 255, 255});
+        int[] cut = Make.join(new int[] {1, 1, 0, 2}, Make.bits("1 1 0001 0 0 011"),
+            Make.bytes("ff ff ff ff ff"));
         packets("a packet that is cut", 8, 0, cut);
         packets("the one behind it, its passes cut", 10, 1, cut);
         malformed("the one behind it", 11, cut);

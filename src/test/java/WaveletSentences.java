@@ -8,6 +8,7 @@ final class WaveletSentences extends Sentences {
         WaveletSentences t = new WaveletSentences(check, document);
         t.picture();
         t.numbers();
+        t.rowsOfEveryLength();
         t.roundedDown();
         t.behindTheRow();
         t.beforeTheFirst();
@@ -87,6 +88,18 @@ final class WaveletSentences extends Sentences {
         check.equal("column " + numbers + ": difference()", column.difference(), 0);
     }
 
+    private void rowsOfEveryLength() {
+        says("THE WAVELET of a row x(0) .. x(n - 1), n above 1: d(k) is x(2k + 1) less half of x(2k) + x(2k + 2), k "
+            + "from 0; s(k) is x(2k) and a fourth of d(k - 1) + d(k) + 2;");
+        splits("-128 127", "0 255");
+        splits("127 -128 127", "0 0 -255");
+        splits("1 2 3 4", "1 3 0 1");
+        splits("1 2 3 4 5", "1 3 5 0 0");
+        splits("9 -7 30 2 -50 11", "-4 27 -32 -26 12 61");
+        splits("9 -7 30 2 -50 11 0", "-4 27 -38 18 -26 12 36");
+        splits("-128 127 -128 127 -128 127 -128 127", "0 0 0 0 255 255 255 255");
+    }
+
     private void roundedDown() {
         says("halves and fourths are rounded down (to the lesser int);");
         // half of -1 is -1, of -3 is -2, of 1 is 0
@@ -136,8 +149,8 @@ final class WaveletSentences extends Sentences {
     }
 
     private void columnsFirst() {
-        says("A LEVEL: each column is replaced by its s, then its d; then each row likewise. The upper left, with the s "
-            + "of both, is LL, and is what the next level does; right of it is HL (d of rows), below it LH, and HH.");
+        says("A LEVEL: each column is replaced by its s, then its d; then each row likewise. The upper left, with the "
+            + "s of both, is LL, and is what the next level does; right of it is HL (d of rows), below it LH, and HH.");
         // 0 0 / 1 0: the columns 1 1 and 0 0, then the rows 1 0 and 1 0; rows first they were 0 0 and 1 -1
         bandsOf("0 0 / 1 0", 1, -1, 1, -1);
         bandsOf("0 1 / 0 0", 1, 1, 0, -1);
