@@ -127,7 +127,7 @@ final class CoderSentences extends Sentences {
     private void carry() {
         says("OUT: if the last byte is not ff, and C is 8000000 or more, 1 is added to that byte,");
         codes("HH", "0 -6", "0c 0f");
-        // C is 8000000 itself (found by trying: about one byte in 400 million)
+        // C is 8000000 itself (found by trying: about one byte in 300 million)
         codes("LL", "0 0 0 / -8 0 0 / 0 0 0 / 0 0 126 / 47 0 0 / 0 -45 0", "1e e0 65 aa 00 18 fe 15");
     }
 
