@@ -653,7 +653,10 @@ public final class WaveletStream {
             if (h == 1) {
                 return v > 0 ? 7 : e > 0 ? 6 : 5;
             }
-            return v == 0 ? Math.min(e, 2) : v + 2;
+            if (v > 0) {
+                return v == 2 ? 4 : 3;
+            }
+            return e < 2 ? e : 2;
         }
 
         private static int cornersFirst(int t, int e) {
@@ -663,7 +666,7 @@ public final class WaveletStream {
             if (e == 2) {
                 return t > 0 ? 7 : 6;
             }
-            return 3 * e + Math.min(t, 2);
+            return 3 * e + (t < 2 ? t : 2);
         }
     }
 
@@ -1064,7 +1067,7 @@ public final class WaveletStream {
         private void writePacket(int r, int layer, int layers, ByteRow stream) {
             boolean any = false;
             for (int b = firstBandOf(r); b <= lastBandOf(r); b++) {
-                any |= passesUpTo(b, layer, layers) > had[b];
+                any = any || passesUpTo(b, layer, layers) > had[b];
             }
             stream.putBits(any ? 1 : 0, 1);
             if (!any) {

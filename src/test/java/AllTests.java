@@ -28,6 +28,7 @@ final class AllTests {
         WaveletSentences.run(check, document);
         PassSentences.run(check, document);
         CoderSentences.run(check, document);
+        CoderSteps.run(check, document);
         StreamSentences.run(check, document);
         CallSentences.run(check, document);
     }

@@ -28,7 +28,7 @@ final class Make {
     /** An object whose stream begins with these bytes; behind them there are others. */
     static WaveletStream poked(int... bytes) {
         WaveletStream w = noise(8, 8, 5);
-        w.encode(0, 1);
+        w.encode(3, 3);
         for (int i = 0; i < bytes.length; i++) {
             w.poke(i, bytes[i]);
         }

@@ -97,7 +97,10 @@ abstract class Sentences {
         return String.join(" ", words);
     }
 
-    /** That so many passes of a band without levels, read from these bytes, give these numbers. */
+    /**
+     * That so many passes of a band without levels, read from these bytes, give these numbers, as far as pixels can
+     * show them: those below -128 and above 127 are told as these.
+     */
     final void reads(String code, int planes, int passes, String numbers) {
         int[][] rows = Make.rows(numbers);
         int[] due = Make.join(rows);
